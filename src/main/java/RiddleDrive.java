@@ -519,9 +519,10 @@ public final class RiddleDrive {
 
         int question(int a, int b) {
             int told = tell(a, b);
-            int price = price(a, b);
+            int price = 0;
             int i = answerAbout(a, b);
             if (i == NONE) {
+                price = fullPrice(a, b);
                 i = makeRoom();
             }
             putCell(i, FIRST, a);
@@ -640,9 +641,16 @@ public final class RiddleDrive {
             for (int x = 0; x <= places; x++) {
                 int way = excessOf(x, from) + limit;
                 if (way < excessOf(x, to)) {
-                    for (int y = 0; y <= places; y++) {
-                        putExcess(x, y, Math.min(excessOf(x, y), way + excessOf(to, y)));
-                    }
+                    shorten(x, to, way);
+                }
+            }
+        }
+
+        private void shorten(int x, int via, int way) {
+            for (int y = 0; y <= places; y++) {
+                int whole = way + excessOf(via, y);
+                if (whole < excessOf(x, y)) {
+                    putExcess(x, y, whole);
                 }
             }
         }

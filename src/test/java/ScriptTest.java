@@ -8,6 +8,7 @@ public final class ScriptTest {
         knowing();
         counting();
         otherGroups();
+        scriptsRunOnTheStateThatThereIs();
         commandsInARow();
         scriptsRefused();
         simulations();
@@ -73,6 +74,13 @@ public final class ScriptTest {
         RiddleDrive y = Check.drive("K40s0w1q0039");
         succeed(y, 60040, 90000, 70011);
         fail(y, 60041, 90001, 70010);
+        RiddleDrive z = Check.drive("K40w1f9");
+        for (int i = 0; i < 25; i++) {
+            z.ask(i, 39);
+        }
+        Check.due("paid", z.about(6), 391);
+        succeed(z, 70391, 70400, 70999);
+        fail(z, 70390, 70300, 70099, 70091);
     }
 
     private static void otherGroups() {
@@ -108,6 +116,9 @@ public final class ScriptTest {
         many(x, 3, 103033120080001L, 2);
         many(x, 3, 103032030080001L, 2);
         many(x, 3, 103032031080001L, -1);
+        many(x, 2, 1030360001L, -1);
+        many(x, 2, 1030360002L, 1);
+        many(x, 2, 3000160000L, 0);
         // fewer digits: the first groups are 00000
         many(x, 3, 1000210003L, 0);
         many(x, 2, 10002L, 0);
@@ -129,6 +140,24 @@ public final class ScriptTest {
         Check.due("five nines", x.runScript(1, 99999), 0);
         Check.due("ten nines", x.runScript(2, 9999999999L), 0);
         Check.due("fifteen nines", x.runScript(3, 999999999999999L), 0);
+    }
+
+    private static void scriptsRunOnTheStateThatThereIs() {
+        RiddleDrive x = Check.drive("K12k03q0205");
+        x.resize(20);
+        x.set(1, 0);
+        x.write(19, true);
+        x.ask(3, 19);
+        one(x, 10019, -1);
+        one(x, 90002, -1);
+        one(x, 70007, -1);
+        one(x, 70006, 0);
+        one(x, 80002, 0);
+        Check.due("a script behind a script", x.runScript(2, 1000680002L), -1);
+        Check.due("is not led by it", x.runScript(2, 1000780003L), 1);
+        int first = x.simulate(4, 12);
+        Check.due("a simulation behind a simulation", x.simulate(4, 12), first);
+        Check.due("is as by hand", first, byHand(x, 4, 12));
     }
 
     private static void simulated(RiddleDrive x, long seed, int m, int due) {

@@ -10,6 +10,7 @@ public final class TextTest {
         loadMakesTheDrive();
         loadAsksQuestions();
         loadReplacesEverything();
+        loadAgain();
         loadRefuses();
         Check.end("TextTest");
     }
@@ -98,6 +99,13 @@ public final class TextTest {
         error("K16s-", 4);
         error("K16f", 4);
         error("K16fa", 4);
+        error("K16f:", 4);
+        error("K16f/", 4);
+        error("K16s/", 4);
+        error("K16w/", 4);
+        error("K16k/", 4);
+        error("K16k0/", 5);
+        error("K16k0:", 5);
         error("K16q", 4);
         error("K16q2", 4);
         error("K16q1", 5);
@@ -107,6 +115,8 @@ public final class TextTest {
         error("K16q0504", 7);
         error("K16q050", 7);
         error("K16q050:", 7);
+        error("K16q100", 6);
+        error("K16q1009", 6);
         error("K16q120", 6);
         error("K16q1211", 7);
         error("K16q1216", 7);
@@ -178,6 +188,21 @@ public final class TextTest {
         x.load();
         Check.due("load again", x.about(1), 0);
         Check.state(x, "load is no action", x::undo);
+    }
+
+    private static void loadAgain() {
+        RiddleDrive x = Check.withText("K12k03w4q0002q0004k04q0006s4w1f9q0000");
+        String first = "";
+        for (int round = 0; round < 3; round++) {
+            Check.due("left out each time", x.load(), 1);
+            first = round == 0 ? Check.look(x) : first;
+            Check.same("the same drive each time", Check.look(x), first);
+        }
+        x.clearText();
+        Check.type(x, "K12");
+        Check.due("load of K12", x.load(), 0);
+        Check.same("nothing of the text before is left", Check.look(x),
+            "error -1 about 12 0 3 2 1 0 0 0 0 0 keys 000000000000 known ???????????? answers ");
     }
 
     private static void loadRefuses() {

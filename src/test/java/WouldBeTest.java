@@ -62,6 +62,8 @@ public final class WouldBeTest {
         best("K16s0q0007", 515);
         best("K12s1q0002q0911", 208);
         best("K12w1s0q0000q1111", 10);
+        // eight places with keys that are known are not open
+        best("K12s0k00k01k02k03k04k05k06k07q0007", 511);
         // place 0 and three keys of 1 to 9
         best("K10s4w3f1q0109", 3);
     }
