@@ -99,12 +99,12 @@ public final class ModelTest {
 
     /** Most often a place; now and then one beside. */
     private int place() {
-        int places = x.about(0);
+        int places = (int) y.about(0);
         return below(25) == 0 ? new int[] {-1, places, places + 1, 40, 63, 64, -64, 1 << 20}[below(8)] : below(places);
     }
 
     private int behind(int a) {
-        int places = x.about(0);
+        int places = (int) y.about(0);
         return a < 0 || a >= places || below(12) == 0 ? place() : from(a, places - 1);
     }
 
@@ -206,7 +206,7 @@ public final class ModelTest {
     }
 
     private int group() {
-        int places = x.about(0);
+        int places = (int) y.about(0);
         int a = below(places);
         int b = from(a, places - 1);
         if (below(12) == 0) {

@@ -2,7 +2,8 @@ import java.lang.management.ManagementFactory;
 
 /** LANGUAGE.md, rule 12: what a run makes is small. Many calls on one object make next to nothing. */
 public final class RoomTest {
-    private static final int ROUNDS = 40;
+    private static final int ROUNDS = 32;
+    private static final int CALLS = 16;
     private static final long MOST_BYTES = 100_000;
 
     public static void main(String[] args) {
@@ -15,7 +16,7 @@ public final class RoomTest {
             use(x);
         }
         long made = bean.getThreadAllocatedBytes(thread) - before;
-        Check.due("an object and " + 12 * ROUNDS + " calls make at most " + MOST_BYTES + " bytes, not " + made,
+        Check.due("an object and " + CALLS * ROUNDS + " calls make at most " + MOST_BYTES + " bytes, not " + made,
             made <= MOST_BYTES, true);
         Check.end("RoomTest");
     }
