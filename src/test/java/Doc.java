@@ -3,6 +3,8 @@ import java.nio.file.Files;
 import java.nio.file.Path;
 import java.util.LinkedHashMap;
 import java.util.Map;
+import java.util.Set;
+import java.util.TreeSet;
 
 /**
  * The document, cut into the sections that the tests name: "What it is", "The public face", "Terms" and its parts by
@@ -28,7 +30,7 @@ final class Doc {
             for (String line : Files.readAllLines(FILE)) {
                 String heading = heading(line);
                 section = heading == null ? section : heading;
-                if (heading == null || !line.startsWith("## ") && !isShouted(line)) {
+                if (isText(line)) {
                     sections.merge(section, plain(line), (a, b) -> a + (a.isEmpty() || b.isEmpty() ? "" : " ") + b);
                 }
             }
@@ -49,6 +51,11 @@ final class Doc {
             : line.startsWith("Ahead of the calls") ? "Ahead of the calls" : null;
     }
 
+    /** Neither a heading of its own nor a fence round code. */
+    private static boolean isText(String line) {
+        return !line.startsWith("## ") && !isShouted(line) && !line.startsWith("```");
+    }
+
     private static boolean isShouted(String line) {
         return line.matches("[A-Z][A-Z ]+");
     }
@@ -59,6 +66,13 @@ final class Doc {
 
     static boolean isThere() {
         return !SECTIONS.isEmpty();
+    }
+
+    /** The sections, without what stands ahead of the first one. */
+    static Set<String> sections() {
+        Set<String> names = new TreeSet<>(SECTIONS.keySet());
+        names.remove("");
+        return names;
     }
 
     static String section(String name) {

@@ -7,25 +7,11 @@ public final class WouldBeTest {
     private static final int[][] BACKWARD = {{5, 4}, {11, 0}, {1, 0}, {11, 10}};
 
     public static void main(String[] args) {
-        Check.sentence("Ahead of the calls", "what would be; these and all following methods up to the save slots "
-            + "change nothing.", WouldBeTest::theyChangeNothing);
         costs();
         bestQuestion();
         worst();
         leastWorth();
         Check.end("WouldBeTest", "Promise 19", "Promise 20", "Promise 21", "Promise 22");
-    }
-
-    private static void theyChangeNothing() {
-        Check.Call[] calls = {
-            x -> x.costs(0, 5), x -> x.costs(0, 1), x -> x.bestQuestion(), x -> x.worst(0, 5), x -> x.worst(0, 1),
-            x -> x.leastWorth(), x -> x.runScript(3, 100062001040000L), x -> x.runScript(3, 314002030030800L),
-            x -> x.runScript(1, 20000), x -> x.runScript(1, 0), x -> x.simulate(7, 30), x -> x.simulate(-1, 1),
-        };
-        for (int i = 0; i < calls.length; i++) {
-            Check.unchanged(Check::busy, "call " + i, calls[i]);
-            Check.unchanged(Check::crowded, "call " + i, calls[i]);
-        }
     }
 
     // ---- promise 19
